@@ -381,7 +381,7 @@ public final class LeafWitness {
             }
             long number = 0;
             for (int i = 0; i < 8; i++) {
-                number = number << 8 | row[place + i] & 255;
+                number = (number << 8) | (row[place + i] & 255);
             }
             return number;
         }
@@ -511,22 +511,23 @@ public final class LeafWitness {
         }
 
         private void put(int oneByte) {
-            int word = filled >> 2 & 15;
+            int word = (filled >> 2) & 15;
             // What the last block left in the word is shifted out by its four new bytes.
-            words[word] = words[word] << 8 | oneByte & 255;
+            words[word] = (words[word] << 8) | (oneByte & 255);
             total++;
             filled++;
         }
 
         void finish(byte[] into) {
+            // No message here is so long that the eight bytes of its length in bits need more than an int.
             int bits = total * 8;
-            add(0x80);
-            for (int i = 0; i < BLOCK_BYTES && filled != LENGTH_PLACE; i++) {
-                add(0);
-            }
-            // No message here is so long that its length needs more than an int.
-            for (int shift = 56; shift >= 0; shift -= 8) {
-                add(shift > 24 ? 0 : bits >>> shift);
+            int tail = filled < LENGTH_PLACE ? BLOCK_BYTES - filled : 2 * BLOCK_BYTES - filled;
+            for (int left = tail; left > 0; left--) {
+                int last = left > 4 ? 0 : bits >>> (8 * (left - 1));
+                put(left == tail ? 0x80 : last);
+                if (filled >= BLOCK_BYTES) {
+                    mix();
+                }
             }
             if (!Row.holds(into, 0, DIGEST_BYTES)) {
                 return;
@@ -550,8 +551,8 @@ public final class LeafWitness {
             for (int t = 16; t < 64; t++) {
                 int x = words[t - 15];
                 int y = words[t - 2];
-                int low = (x >>> 7 | x << 25) ^ (x >>> 18 | x << 14) ^ x >>> 3;
-                int high = (y >>> 17 | y << 15) ^ (y >>> 19 | y << 13) ^ y >>> 10;
+                int low = (x >>> 7 | x << 25) ^ (x >>> 18 | x << 14) ^ (x >>> 3);
+                int high = (y >>> 17 | y << 15) ^ (y >>> 19 | y << 13) ^ (y >>> 10);
                 words[t] = words[t - 16] + low + words[t - 7] + high;
             }
             int a = state[0];
@@ -564,10 +565,10 @@ public final class LeafWitness {
             int h = state[7];
             for (int t = 0; t < 64; t++) {
                 int high = (e >>> 6 | e << 26) ^ (e >>> 11 | e << 21) ^ (e >>> 25 | e << 7);
-                int choice = e & f ^ ~e & g;
+                int choice = (e & f) ^ (~e & g);
                 int one = h + high + choice + ROUND[t] + words[t];
                 int low = (a >>> 2 | a << 30) ^ (a >>> 13 | a << 19) ^ (a >>> 22 | a << 10);
-                int most = a & b ^ a & c ^ b & c;
+                int most = (a & b) ^ (a & c) ^ (b & c);
                 h = g;
                 g = f;
                 f = e;
@@ -772,7 +773,7 @@ public final class LeafWitness {
 
         /** Keeps the ROOTS of the greater parts that are full since the LEAF before stop came. */
         private void joinFulls(int stop) {
-            for (int half = 1; half < ENTRIES_MOST && (stop & 2 * half - 1) == 0; half *= 2) {
+            for (int half = 1; half < ENTRIES_MOST && (stop & (2 * half - 1)) == 0; half *= 2) {
                 int middle = stop - half;
                 int start = middle - half;
                 sha.node(fullOf(start, middle), 0, fullOf(middle, stop), 0, digest);
@@ -822,7 +823,7 @@ public final class LeafWitness {
             }
             int last = stop;
             for (int width = 1; width <= ENTRIES_MOST && last > start; width *= 2) {
-                if ((stop - start & width) != 0) {
+                if (((stop - start) & width) != 0) {
                     byte[] full = fullOf(last - width, last);
                     if (last == stop) {
                         Row.copy(full, 0, digest, 0, DIGEST_BYTES);

@@ -33,6 +33,8 @@ public final class PromisesTest {
     private static final String ROOT_6_8 = "ca854ea128ed050b41b35ffc1b87b8eb2bde461e9e3b5596ece6b9d5975a0ae0";
     private static final String SOME = "11".repeat(32);
     private static final String OTHER = "22".repeat(32);
+    /** Unlike SOME in the last bit alone. */
+    private static final String NEARLY = "11".repeat(31) + "10";
 
     private PromisesTest() {
     }
@@ -269,6 +271,8 @@ public final class PromisesTest {
         Due.is("8: none is in the TREE", x.size(1, 1), 0);
         x.cut(1, 0);
         Due.is("8: all are in the TREE", x.size(1, 1), 200);
+        Due.is("12: the last", x.entry(1, 199), 20);
+        Due.is("13: the last", x.leaf(1, 199), true);
         Due.is("17: the longest PROOF", x.proof(1, 127, 200), 9);
         Due.is("17: its bytes", x.outs(), 288);
         Due.is("16: the longest WAY", x.way(1, 0, 200), 8);
@@ -290,8 +294,10 @@ public final class PromisesTest {
         Due.raises("9: lowest", NO_ARGUMENT, () -> desk.x.cut(0, Long.MIN_VALUE));
         Due.is("9: it waits still", desk.x.size(0, 1), 2);
         Due.is("9: no HEAD came", desk.x.size(0, 2), 3);
-        Due.is("9: greatest TIME", desk.x.cut(0, Long.MAX_VALUE), 3);
-        Due.is("9: again", desk.x.cut(0, Long.MAX_VALUE), 4);
+        Due.is("9: later", desk.x.cut(0, 9), 3);
+        Due.raises("9: below the latest alone", NO_ARGUMENT, () -> desk.x.cut(0, 8));
+        Due.is("9: greatest TIME", desk.x.cut(0, Long.MAX_VALUE), 4);
+        Due.is("9: again", desk.x.cut(0, Long.MAX_VALUE), 5);
         Due.raises("9: below the greatest", NO_ARGUMENT, () -> desk.x.cut(0, Long.MAX_VALUE - 1));
         Due.raises("9: below 0 in the other LOG", NO_ARGUMENT, () -> desk.x.cut(1, -1));
         Due.is("9: the other LOG", desk.x.cut(1, 0), 0);
@@ -411,6 +417,7 @@ public final class PromisesTest {
         desk.x.cut(0, 9);
         desk.x.again();
         Due.is("14: behind a cut", desk.x.find(0), 8);
+        Due.is("14: nearly a LEAF", desk.tape(LEAF_4.substring(0, 63) + "a").x.find(0), -1);
         Due.is("14: no LEAF", desk.tape(SOME).x.find(0), -1);
         Due.is("14: a ROOT is no LEAF", desk.tape(ROOTS[2]).x.find(0), -1);
         Due.is("14: the other LOG", desk.tape(ROOTS[1]).x.find(1), -1);
@@ -503,6 +510,7 @@ public final class PromisesTest {
         Due.is("18: a digest too few", desk.tape(told.substring(0, 256)).x.isIn(0, 8), false);
         Due.is("18: a last bit changed", desk.tape(told.substring(0, 319) + "5").x.isIn(0, 8), false);
         Due.is("18: of one", desk.tape(SOME + SOME).x.isIn(0, 1), true);
+        Due.is("18: of one, nearly", desk.tape(NEARLY + SOME).x.isIn(0, 1), false);
         Due.is("18: of one, unlike", desk.tape(SOME + OTHER).x.isIn(0, 1), false);
         Due.is("18: no LEAF", desk.tape(SOME).x.isIn(0, 1), false);
         Due.is("18: nothing", desk.x.isIn(0, 1), false);
@@ -539,6 +547,8 @@ public final class PromisesTest {
         Due.is("19: another m", desk.tape(told).x.isOn(5, 8), false);
         Due.is("19: another n", desk.tape(told).x.isOn(6, 9), false);
         Due.is("19: another first ROOT", desk.tape(SOME + told.substring(64)).x.isOn(6, 8), false);
+        String nearly = ROOTS[6].substring(0, 63) + "e";
+        Due.is("19: nearly the first ROOT", desk.tape(nearly + told.substring(64)).x.isOn(6, 8), false);
         Due.is("19: another second ROOT",
                 desk.tape(ROOTS[6] + SOME + told.substring(128)).x.isOn(6, 8), false);
         Due.is("19: a byte behind", desk.tape(told + "00").x.isOn(6, 8), false);
@@ -548,6 +558,7 @@ public final class PromisesTest {
         Due.is("19: m a power of 2", desk.tape(ROOTS[4] + ROOTS[8] + ROOT_4_8).x.isOn(4, 8), true);
         Due.is("19: its first ROOT changed", desk.tape(SOME + ROOTS[8] + ROOT_4_8).x.isOn(4, 8), false);
         Due.is("19: m is n", desk.tape(SOME + SOME).x.isOn(3, 3), true);
+        Due.is("19: m is n, nearly the ROOT", desk.tape(SOME + NEARLY).x.isOn(3, 3), false);
         Due.is("19: m is n, unlike ROOTS", desk.tape(SOME + OTHER).x.isOn(3, 3), false);
         Due.is("19: m is n, a digest", desk.tape(SOME + SOME + SOME).x.isOn(3, 3), false);
         Due.is("19: one ROOT", desk.tape(SOME).x.isOn(3, 3), false);
@@ -626,8 +637,8 @@ public final class PromisesTest {
             byte[] key = new byte[n];
             java.util.Arrays.fill(key, (byte) 0xa5);
             desk.tape(key).x.key(0);
-            desk.tape(told).x.seal(0);
-            Due.is("21: KEY of " + n, desk.out(), Desk.text(Reference.sealed(key, Desk.hex(told))));
+            desk.tape(Reference.sealed(key, Desk.hex(told)));
+            Due.is("21: KEY of " + n, desk.x.isSealed(0), true);
         }
     }
 
@@ -681,6 +692,7 @@ public final class PromisesTest {
         Due.is("22: not from that one", follow(desk, 2, next, digests), 4);
         Due.is("22: unlike ROOTS of SIZE 0", follow(desk, 3, Desk.sealed("", 0, 0, SOME), ""), 0);
         Due.is("22: are a split", follow(desk, 3, Desk.sealed("", 0, 0, OTHER), ""), 3);
+        Due.is("22: nearly one ROOT", follow(desk, 2, Desk.sealed("", 0, 6, NEARLY), ""), 3);
         // A new KEY: what was sealed before is not as by it just now.
         desk.tape("6b").x.key(0);
         Due.is("22: the KEY before", follow(desk, 1, next, ""), 1);
@@ -731,6 +743,8 @@ public final class PromisesTest {
         follow(desk, 1, Desk.sealed("", 2, 4, ROOTS[4]), "");
         Due.is("23: one SIZE and ROOT", desk.x.gossip(0, 1, 0), 0);
         follow(desk, 2, Desk.sealed("", 0, Long.MAX_VALUE, SOME), "");
+        follow(desk, 3, Desk.sealed("", 0, Long.MAX_VALUE, NEARLY), "");
+        Due.is("23: nearly one ROOT", desk.x.gossip(3, 2, 0), 3);
         Due.is("23: the first is greater", desk.x.gossip(2, 0, 0), 1);
         Due.is("23: the second is greater", desk.x.gossip(0, 2, 0), 2);
         desk.x.has(0, 0, 0);
