@@ -1,33 +1,56 @@
 /** Compares answers with those that are due, and counts the wrong ones. */
 final class Due {
+    static final String NO_INDEX = "throws.IndexOutOfBoundsException";
+    static final String NO_ARGUMENT = "throws.IllegalArgumentException";
+    static final String NO_STATE = "throws.IllegalStateException";
+    static final String NO_ELEMENT = "throws.NoSuchElementException";
+
     /** A call of which only what it throws is wanted. */
     interface Call {
         void run();
     }
 
+    interface Answer {
+        Object get();
+    }
+
     private static int wrong = 0;
+    private static String about = "";
 
     private Due() {
+    }
+
+    /** What the next answers are about is printed before each wrong one. */
+    static void about(String words) {
+        about = words;
     }
 
     static void is(String what, Object got, Object want) {
         if (!got.equals(want)) {
             wrong++;
-            System.out.println(what + " answered " + got + ", due is " + want);
+            System.out.println(about + what + " answered " + got + ", due is " + want);
         }
     }
 
-    static void raises(String what, Class<?> want, Call call) {
-        Class<?> got = null;
+    /** The answer as text, or "throws." and the name of the very class that is thrown. */
+    static String outcome(Answer answer) {
         try {
-            call.run();
+            return String.valueOf(answer.get());
         } catch (RuntimeException e) {
-            got = e.getClass();
+            return "throws." + e.getClass().getSimpleName();
         }
-        if (got != want) {
-            wrong++;
-            System.out.println(what + " threw " + got + ", due is " + want);
-        }
+    }
+
+    static void raises(String what, String want, Call call) {
+        String got = outcome(() -> {
+            call.run();
+            return "nothing thrown";
+        });
+        is(what, got, want);
+    }
+
+    static int wrong() {
+        return wrong;
     }
 
     static void done(String name) {

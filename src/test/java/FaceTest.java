@@ -14,12 +14,21 @@ import java.util.regex.Pattern;
 
 /** The public face is the document's and no more, and the source keeps to what of LANGUAGE.md can be read off it. */
 public final class FaceTest {
+    private static final String INDEX = " throws IndexOutOfBoundsException";
+    private static final String ARGUMENT = " IllegalArgumentException";
+    private static final String STATE = " IllegalStateException";
+    private static final String ELEMENT = " NoSuchElementException";
     private static final String[] FACE = {
-        "boolean end(int)", "boolean has(int,int,int)", "boolean isIn(long,long)", "boolean isOn(long,long)",
-        "boolean isSealed(int)", "boolean leaf(int,int)", "boolean root(int,int)", "boolean seal(int)",
-        "int again()", "int cut(int,long)", "int entry(int,int)", "int feed(int,int,int,int,int)", "int find(int)",
-        "int follow(int,int)", "int gossip(int,int,int)", "int head(int,int)", "int key(int)", "int out(int)",
-        "int outs()", "int proof(int,int,int)", "int size(int,int)", "int submit(int)", "int way(int,int,int)"
+        "boolean end(int)", "boolean has(int,int,int)" + INDEX + ELEMENT, "boolean isIn(long,long)",
+        "boolean isOn(long,long)", "boolean isSealed(int)" + INDEX + ARGUMENT,
+        "boolean leaf(int,int)" + INDEX + ELEMENT, "boolean root(int,int)" + INDEX + ELEMENT,
+        "boolean seal(int)" + INDEX + ARGUMENT, "int again()",
+        "int cut(int,long)" + INDEX + ARGUMENT + STATE, "int entry(int,int)" + INDEX + ELEMENT,
+        "int feed(int,int,int,int,int)", "int find(int)" + INDEX + ARGUMENT, "int follow(int,int)" + INDEX + ARGUMENT,
+        "int gossip(int,int,int)" + INDEX, "int head(int,int)" + INDEX + ELEMENT,
+        "int key(int)" + INDEX + ARGUMENT + STATE, "int out(int)", "int outs()",
+        "int proof(int,int,int)" + INDEX + ELEMENT, "int size(int,int)" + INDEX + ELEMENT,
+        "int submit(int)" + INDEX + ARGUMENT + STATE, "int way(int,int,int)" + INDEX + ELEMENT
     };
     /** Words that the language leaves out, each with the rule that says so. */
     private static final String[][] LEFT_OUT = {
@@ -53,7 +62,11 @@ public final class FaceTest {
         for (Class<?> type : method.getParameterTypes()) {
             text.append(text.charAt(text.length() - 1) == '(' ? "" : ",").append(type.getSimpleName());
         }
-        return text.append(')').toString();
+        text.append(')');
+        for (Class<?> type : method.getExceptionTypes()) {
+            text.append(text.indexOf(" throws") < 0 ? " throws " : " ").append(type.getSimpleName());
+        }
+        return text.toString();
     }
 
     private static void publicMembers() {
@@ -67,6 +80,8 @@ public final class FaceTest {
         methods.sort(null);
         Due.is("the methods", methods, Arrays.asList(FACE));
         Due.is("the constructors", LeafWitness.class.getDeclaredConstructors().length, 1);
+        Due.is("the constructor's parameters", LeafWitness.class.getConstructors()[0].getParameterCount(), 0);
+        Due.is("NONE", LeafWitness.NONE, -1);
         Due.is("public and final", LeafWitness.class.getModifiers(), Modifier.PUBLIC | Modifier.FINAL);
     }
 

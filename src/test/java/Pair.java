@@ -3,10 +3,6 @@ import java.util.Random;
 
 /** A LeafWitness and a Model that get the same calls; every answer, exception and piece of OUT is compared. */
 final class Pair {
-    private interface Call {
-        Object run();
-    }
-
     private final LeafWitness subject = new LeafWitness();
     final Model model = new Model();
     private final String name;
@@ -24,19 +20,11 @@ final class Pair {
         return calls + more <= 512;
     }
 
-    private static String outcome(Call call) {
-        try {
-            return String.valueOf(call.run());
-        } catch (RuntimeException e) {
-            return "throws " + e.getClass().getName();
-        }
-    }
-
-    private String both(String what, Call ofSubject, Call ofModel) {
+    private String both(String what, Due.Answer ofSubject, Due.Answer ofModel) {
         calls++;
-        String want = outcome(ofModel);
+        String want = Due.outcome(ofModel);
         story.append(what).append(" = ").append(want).append("; ");
-        Due.is(name + ": " + story, outcome(ofSubject), want);
+        Due.is(name + ": " + story, Due.outcome(ofSubject), want);
         return want;
     }
 

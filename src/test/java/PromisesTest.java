@@ -1,41 +1,5 @@
-import java.util.NoSuchElementException;
-
 /** Each promise of the document by its number: ordinary inputs, the edges that it names, and wrong inputs. */
 public final class PromisesTest {
-    private static final Class<?> NO_INDEX = IndexOutOfBoundsException.class;
-    private static final Class<?> NO_ARGUMENT = IllegalArgumentException.class;
-    private static final Class<?> NO_STATE = IllegalStateException.class;
-    private static final Class<?> NO_ELEMENT = NoSuchElementException.class;
-    private static final int[] NO_LOGS = {-1, 2, Integer.MIN_VALUE, Integer.MAX_VALUE};
-    private static final int[] NO_WITNESSES = {-1, 4, Integer.MIN_VALUE, Integer.MAX_VALUE};
-
-    private static final String NO_LEAVES = "e3b0c44298fc1c149afbf4c8996fb92427ae41e4649b934ca495991b7852b855";
-    /** The entries, roots and proofs that are known of RFC 6962's trees, which are these trees. */
-    private static final String[] ENTRIES = {
-        "", "00", "10", "2021", "3031", "40414243", "5051525354555657", "606162636465666768696a6b6c6d6e6f"
-    };
-    private static final String[] ROOTS = {
-        NO_LEAVES,
-        "6e340b9cffb37a989ca544e6bb780a2c78901d3fb33738768511a30617afa01d",
-        "fac54203e7cc696cf0dfcb42c92a1d9dbaf70ad9e621f4bd8d98662f00e3c125",
-        "aeb6bcfe274b70a14fb067a5e5578264db0fa9b51af5e0ba159158f329e06e77",
-        "d37ee418976dd95753c1c73862b9398fa2a2cf9b4ff0fdfe8b30cd95209614b7",
-        "4e3bbb1f7b478dcfe71fb631631519a3bca12c9aefca1612bfce4c13a86264d4",
-        "76e67dadbcdf1e10e1b74ddc608abd2f98dfb16fbce75277b5232a127f2087ef",
-        "ddb89be403809e325750d3d263cd78929c2942b7942a34b77e122c9594a74c8c",
-        "5dc9da79a70659a9ad559cb701ded9a2ab9d823aad2f4960cfe370eff4604328"
-    };
-    private static final String LEAF_1 = "96a296d224f285c67bee93c30f8a309157f0daa35dc5b87e410b78630a09cfc7";
-    private static final String LEAF_4 = "bc1a0643b12e4d2d7c77918f44e0f4f79a838b6cf9ec5b5c283e1f4d88599e6b";
-    private static final String ROOT_2_4 = "5f083f0a1a33ca076a95279832580db3e0ef4584bdff1f54c8a360f50de3031e";
-    private static final String ROOT_4_8 = "6b47aaf29ee3c2af9af889bc1fb9254dabd31177f16232dd6aab035ca39bf6e4";
-    private static final String ROOT_4_6 = "0ebc5d3437fbe2db158b9f126a1d118e308181031d0a949f8dededebc558ef6a";
-    private static final String ROOT_6_8 = "ca854ea128ed050b41b35ffc1b87b8eb2bde461e9e3b5596ece6b9d5975a0ae0";
-    private static final String SOME = "11".repeat(32);
-    private static final String OTHER = "22".repeat(32);
-    /** Unlike SOME in the last bit alone. */
-    private static final String NEARLY = "11".repeat(31) + "10";
-
     private PromisesTest() {
     }
 
@@ -81,7 +45,7 @@ public final class PromisesTest {
     /** LOG 0 with the known ENTRIES, all in its TREE. */
     private static Desk known() {
         Desk desk = new Desk();
-        for (String entry : ENTRIES) {
+        for (String entry : Known.ENTRIES) {
             desk.submit(0, entry);
         }
         desk.x.cut(0, 5);
@@ -95,13 +59,13 @@ public final class PromisesTest {
             for (int what = 0; what < 4; what++) {
                 Due.is("1: size", x.size(log, what), 0);
             }
-            Due.raises("1: head", NO_ELEMENT, () -> x.head(its, 0));
-            Due.raises("1: entry", NO_ELEMENT, () -> x.entry(its, 0));
+            Due.raises("1: head", Due.NO_ELEMENT, () -> x.head(its, 0));
+            Due.raises("1: entry", Due.NO_ELEMENT, () -> x.entry(its, 0));
             for (int witness = 0; witness < 4; witness++) {
                 int one = witness;
                 for (int which = 0; which < 3; which++) {
                     int w = which;
-                    Due.raises("1: has", NO_ELEMENT, () -> x.has(one, its, w));
+                    Due.raises("1: has", Due.NO_ELEMENT, () -> x.has(one, its, w));
                 }
             }
         }
@@ -215,18 +179,18 @@ public final class PromisesTest {
         Due.is("7: used up", desk.tapeIsEmpty(), true);
         Due.is("7: its size", desk.x.size(0, 3), 100);
         Due.is("7: the other LOG's", desk.x.size(1, 3), 0);
-        Due.raises("7: 101 bytes", NO_ARGUMENT, () -> desk.sevens(101).x.key(0));
+        Due.raises("7: 101 bytes", Due.NO_ARGUMENT, () -> desk.sevens(101).x.key(0));
         Due.is("7: it stays", desk.x.size(0, 3), 100);
         Due.is("7: another one", desk.tape("0102").x.key(0), 2);
-        desk.tape(Desk.sealed("0102", 1, 2, SOME));
+        desk.tape(Desk.sealed("0102", 1, 2, Known.SOME));
         Due.is("7: it seals", desk.x.isSealed(0), true);
         desk.x.cut(0, 1);
-        Due.raises("7: it has a HEAD", NO_STATE, () -> desk.tape("01").x.key(0));
-        Due.raises("7: too long comes first", NO_ARGUMENT, () -> desk.sevens(101).x.key(0));
+        Due.raises("7: it has a HEAD", Due.NO_STATE, () -> desk.tape("01").x.key(0));
+        Due.raises("7: too long comes first", Due.NO_ARGUMENT, () -> desk.sevens(101).x.key(0));
         Due.is("7: it stays", desk.x.size(0, 3), 2);
         Due.is("7: the other LOG has none", desk.tape("010203").x.key(1), 3);
-        for (int log : NO_LOGS) {
-            Due.raises("7: no such LOG", NO_INDEX, () -> desk.sevens(101).x.key(log));
+        for (int log : Known.NO_LOGS) {
+            Due.raises("7: no such LOG", Due.NO_INDEX, () -> desk.sevens(101).x.key(log));
         }
     }
 
@@ -246,10 +210,10 @@ public final class PromisesTest {
         desk.x.cut(0, 1);
         Due.is("8: the same in the TREE", desk.submit(0, "0000"), 2);
         Due.is("8: the other LOG", desk.submit(1, "00"), 0);
-        Due.raises("8: 121 bytes", NO_ARGUMENT, () -> desk.sevens(121).x.submit(0));
+        Due.raises("8: 121 bytes", Due.NO_ARGUMENT, () -> desk.sevens(121).x.submit(0));
         Due.is("8: nothing came", desk.x.size(0, 0), 5);
-        for (int log : NO_LOGS) {
-            Due.raises("8: no such LOG", NO_INDEX, () -> desk.sevens(121).x.submit(log));
+        for (int log : Known.NO_LOGS) {
+            Due.raises("8: no such LOG", Due.NO_INDEX, () -> desk.sevens(121).x.submit(log));
         }
     }
 
@@ -260,13 +224,13 @@ public final class PromisesTest {
             Due.is("8: number", x.submit(1), i);
         }
         x.feed(200, 0, 0, 0, 0);
-        Due.raises("8: there are 200", NO_STATE, () -> x.submit(1));
+        Due.raises("8: there are 200", Due.NO_STATE, () -> x.submit(1));
         x.feed(199, 0, 0, 0, 0);
         Due.is("8: the same of 200", x.submit(1), 199);
         for (int i = 0; i < 7; i++) {
             x.feed(0, 0, 0, 0, 0);
         }
-        Due.raises("8: too long comes first", NO_ARGUMENT, () -> x.submit(1));
+        Due.raises("8: too long comes first", Due.NO_ARGUMENT, () -> x.submit(1));
         Due.is("8: 200", x.size(1, 0), 200);
         Due.is("8: none is in the TREE", x.size(1, 1), 0);
         x.cut(1, 0);
@@ -289,20 +253,20 @@ public final class PromisesTest {
         Due.is("9: TREE behind", desk.x.size(0, 1), 2);
         Due.is("9: the same TIME", desk.x.cut(0, 7), 2);
         desk.submit(0, "02");
-        Due.raises("9: below the latest", NO_ARGUMENT, () -> desk.x.cut(0, 6));
-        Due.raises("9: below 0", NO_ARGUMENT, () -> desk.x.cut(0, -1));
-        Due.raises("9: lowest", NO_ARGUMENT, () -> desk.x.cut(0, Long.MIN_VALUE));
+        Due.raises("9: below the latest", Due.NO_ARGUMENT, () -> desk.x.cut(0, 6));
+        Due.raises("9: below 0", Due.NO_ARGUMENT, () -> desk.x.cut(0, -1));
+        Due.raises("9: lowest", Due.NO_ARGUMENT, () -> desk.x.cut(0, Long.MIN_VALUE));
         Due.is("9: it waits still", desk.x.size(0, 1), 2);
         Due.is("9: no HEAD came", desk.x.size(0, 2), 3);
         Due.is("9: later", desk.x.cut(0, 9), 3);
-        Due.raises("9: below the latest alone", NO_ARGUMENT, () -> desk.x.cut(0, 8));
+        Due.raises("9: below the latest alone", Due.NO_ARGUMENT, () -> desk.x.cut(0, 8));
         Due.is("9: greatest TIME", desk.x.cut(0, Long.MAX_VALUE), 4);
         Due.is("9: again", desk.x.cut(0, Long.MAX_VALUE), 5);
-        Due.raises("9: below the greatest", NO_ARGUMENT, () -> desk.x.cut(0, Long.MAX_VALUE - 1));
-        Due.raises("9: below 0 in the other LOG", NO_ARGUMENT, () -> desk.x.cut(1, -1));
+        Due.raises("9: below the greatest", Due.NO_ARGUMENT, () -> desk.x.cut(0, Long.MAX_VALUE - 1));
+        Due.raises("9: below 0 in the other LOG", Due.NO_ARGUMENT, () -> desk.x.cut(1, -1));
         Due.is("9: the other LOG", desk.x.cut(1, 0), 0);
-        for (int log : NO_LOGS) {
-            Due.raises("9: no such LOG", NO_INDEX, () -> desk.x.cut(log, -1));
+        for (int log : Known.NO_LOGS) {
+            Due.raises("9: no such LOG", Due.NO_INDEX, () -> desk.x.cut(log, -1));
         }
         desk.tape("0102");
         desk.x.cut(0, Long.MAX_VALUE);
@@ -315,8 +279,8 @@ public final class PromisesTest {
             Due.is("9: number", x.cut(0, 3), i);
         }
         x.submit(0);
-        Due.raises("9: there are 40", NO_STATE, () -> x.cut(0, 3));
-        Due.raises("9: TIME comes first", NO_ARGUMENT, () -> x.cut(0, 2));
+        Due.raises("9: there are 40", Due.NO_STATE, () -> x.cut(0, 3));
+        Due.raises("9: TIME comes first", Due.NO_ARGUMENT, () -> x.cut(0, 2));
         Due.is("9: 40", x.size(0, 2), 40);
         Due.is("9: it waits", x.size(0, 1), 0);
         Due.is("9: the last", x.head(0, 39), 0);
@@ -334,10 +298,10 @@ public final class PromisesTest {
         Due.is("10: the other's HEADS", desk.x.size(1, 2), 2);
         Due.is("10: the other's ENTRIES", desk.x.size(1, 0), 0);
         for (int what : new int[] {-1, 4, Integer.MIN_VALUE, Integer.MAX_VALUE}) {
-            Due.raises("10: another what", NO_ELEMENT, () -> desk.x.size(0, what));
+            Due.raises("10: another what", Due.NO_ELEMENT, () -> desk.x.size(0, what));
         }
-        for (int log : NO_LOGS) {
-            Due.raises("10: no such LOG", NO_INDEX, () -> desk.x.size(log, 4));
+        for (int log : Known.NO_LOGS) {
+            Due.raises("10: no such LOG", Due.NO_INDEX, () -> desk.x.size(log, 4));
         }
     }
 
@@ -345,23 +309,23 @@ public final class PromisesTest {
         Desk desk = new Desk();
         desk.tape("6b6579").x.key(0);
         desk.x.cut(0, 0x0102030405060708L);
-        for (String entry : ENTRIES) {
+        for (String entry : Known.ENTRIES) {
             desk.submit(0, entry);
         }
         desk.x.cut(0, Long.MAX_VALUE);
         byte[] key = Desk.hex("6b6579");
         Due.is("11: SIZE", desk.x.head(0, 0), 0);
-        String told = "0102030405060708" + "0000000000000000" + NO_LEAVES;
+        String told = "0102030405060708" + "0000000000000000" + Known.NO_LEAVES;
         Due.is("11: HEAD 0", desk.out(), Desk.text(Reference.sealed(key, Desk.hex(told))));
         Due.is("11: SIZE", desk.x.head(0, 1), 8);
-        told = "7fffffffffffffff" + "0000000000000008" + ROOTS[8];
+        told = "7fffffffffffffff" + "0000000000000008" + Known.ROOTS[8];
         Due.is("11: HEAD 1", desk.out(), Desk.text(Reference.sealed(key, Desk.hex(told))));
         for (int k : new int[] {-1, 2, 39, 40, Integer.MIN_VALUE, Integer.MAX_VALUE}) {
-            Due.raises("11: none such", NO_ELEMENT, () -> desk.x.head(0, k));
+            Due.raises("11: none such", Due.NO_ELEMENT, () -> desk.x.head(0, k));
         }
-        Due.raises("11: the other LOG", NO_ELEMENT, () -> desk.x.head(1, 0));
-        for (int log : NO_LOGS) {
-            Due.raises("11: no such LOG", NO_INDEX, () -> desk.x.head(log, -1));
+        Due.raises("11: the other LOG", Due.NO_ELEMENT, () -> desk.x.head(1, 0));
+        for (int log : Known.NO_LOGS) {
+            Due.raises("11: no such LOG", Due.NO_INDEX, () -> desk.x.head(log, -1));
         }
     }
 
@@ -369,15 +333,15 @@ public final class PromisesTest {
         Desk desk = known();
         desk.submit(0, "aabb");
         for (int i = 0; i < 8; i++) {
-            Due.is("12: bytes", desk.x.entry(0, i), ENTRIES[i].length() / 2);
-            Due.is("12: ENTRY", desk.out(), ENTRIES[i]);
+            Due.is("12: bytes", desk.x.entry(0, i), Known.ENTRIES[i].length() / 2);
+            Due.is("12: ENTRY", desk.out(), Known.ENTRIES[i]);
         }
         Due.is("12: that WAITS", desk.x.entry(0, 8), 2);
         for (int i : new int[] {-1, 9, 199, 200, Integer.MIN_VALUE, Integer.MAX_VALUE}) {
-            Due.raises("12: none such", NO_ELEMENT, () -> desk.x.entry(0, i));
+            Due.raises("12: none such", Due.NO_ELEMENT, () -> desk.x.entry(0, i));
         }
-        for (int log : NO_LOGS) {
-            Due.raises("12: no such LOG", NO_INDEX, () -> desk.x.entry(log, -1));
+        for (int log : Known.NO_LOGS) {
+            Due.raises("12: no such LOG", Due.NO_INDEX, () -> desk.x.entry(log, -1));
         }
     }
 
@@ -385,18 +349,18 @@ public final class PromisesTest {
         Desk desk = known();
         desk.submit(0, "aabb");
         Due.is("13: in the TREE", desk.x.leaf(0, 0), true);
-        Due.is("13: LEAF of no bytes", desk.out(), ROOTS[1]);
+        Due.is("13: LEAF of no bytes", desk.out(), Known.ROOTS[1]);
         Due.is("13: in the TREE", desk.x.leaf(0, 7), true);
-        Due.is("13: LEAF", desk.out(), Desk.text(Reference.leaf(Desk.hex(ENTRIES[7]))));
+        Due.is("13: LEAF", desk.out(), Desk.text(Reference.leaf(Desk.hex(Known.ENTRIES[7]))));
         Due.is("13: it WAITS", desk.x.leaf(0, 8), false);
         Due.is("13: LEAF", desk.out(), Desk.text(Reference.leaf(Desk.hex("aabb"))));
         desk.x.cut(0, 9);
         Due.is("13: behind a cut", desk.x.leaf(0, 8), true);
         for (int i : new int[] {-1, 9, 199, 200, Integer.MIN_VALUE, Integer.MAX_VALUE}) {
-            Due.raises("13: none such", NO_ELEMENT, () -> desk.x.leaf(0, i));
+            Due.raises("13: none such", Due.NO_ELEMENT, () -> desk.x.leaf(0, i));
         }
-        for (int log : NO_LOGS) {
-            Due.raises("13: no such LOG", NO_INDEX, () -> desk.x.leaf(log, -1));
+        for (int log : Known.NO_LOGS) {
+            Due.raises("13: no such LOG", Due.NO_INDEX, () -> desk.x.leaf(log, -1));
         }
         for (int length : new int[] {54, 55, 56, 63, 64, 118, 119, 120}) {
             byte[] entry = new byte[length];
@@ -408,24 +372,24 @@ public final class PromisesTest {
     private static void find() {
         Desk desk = known();
         desk.submit(0, "aabb");
-        Due.is("14: the first", desk.tape(ROOTS[1]).x.find(0), 0);
+        Due.is("14: the first", desk.tape(Known.ROOTS[1]).x.find(0), 0);
         Due.is("14: used up", desk.tapeIsEmpty(), true);
-        Due.is("14: another", desk.tape(LEAF_4).x.find(0), 4);
+        Due.is("14: another", desk.tape(Known.LEAF_4).x.find(0), 4);
         desk.x.leaf(0, 8);
         desk.x.again();
         Due.is("14: it WAITS", desk.x.find(0), -1);
         desk.x.cut(0, 9);
         desk.x.again();
         Due.is("14: behind a cut", desk.x.find(0), 8);
-        Due.is("14: nearly a LEAF", desk.tape(LEAF_4.substring(0, 63) + "a").x.find(0), -1);
-        Due.is("14: no LEAF", desk.tape(SOME).x.find(0), -1);
-        Due.is("14: a ROOT is no LEAF", desk.tape(ROOTS[2]).x.find(0), -1);
-        Due.is("14: the other LOG", desk.tape(ROOTS[1]).x.find(1), -1);
+        Due.is("14: nearly a LEAF", desk.tape(Known.LEAF_4.substring(0, 63) + "a").x.find(0), -1);
+        Due.is("14: no LEAF", desk.tape(Known.SOME).x.find(0), -1);
+        Due.is("14: a ROOT is no LEAF", desk.tape(Known.ROOTS[2]).x.find(0), -1);
+        Due.is("14: the other LOG", desk.tape(Known.ROOTS[1]).x.find(1), -1);
         for (int n : new int[] {0, 31, 33, 64}) {
-            Due.raises("14: not 32 bytes", NO_ARGUMENT, () -> desk.sevens(n).x.find(0));
+            Due.raises("14: not 32 bytes", Due.NO_ARGUMENT, () -> desk.sevens(n).x.find(0));
         }
-        for (int log : NO_LOGS) {
-            Due.raises("14: no such LOG", NO_INDEX, () -> desk.tape("00").x.find(log));
+        for (int log : Known.NO_LOGS) {
+            Due.raises("14: no such LOG", Due.NO_INDEX, () -> desk.tape("00").x.find(log));
         }
     }
 
@@ -434,16 +398,16 @@ public final class PromisesTest {
         desk.submit(0, "aabb");
         for (int n = 0; n <= 8; n++) {
             Due.is("15: root", desk.x.root(0, n), true);
-            Due.is("15: ROOT of " + n, desk.out(), ROOTS[n]);
+            Due.is("15: ROOT of " + n, desk.out(), Known.ROOTS[n]);
         }
         Due.is("15: of the empty LOG", desk.x.root(1, 0), true);
-        Due.is("15: its ROOT", desk.out(), NO_LEAVES);
+        Due.is("15: its ROOT", desk.out(), Known.NO_LEAVES);
         for (int n : new int[] {-1, 9, 200, Integer.MIN_VALUE, Integer.MAX_VALUE}) {
-            Due.raises("15: not 0 to SIZE", NO_ELEMENT, () -> desk.x.root(0, n));
+            Due.raises("15: not 0 to SIZE", Due.NO_ELEMENT, () -> desk.x.root(0, n));
         }
-        Due.raises("15: beyond the empty LOG", NO_ELEMENT, () -> desk.x.root(1, 1));
-        for (int log : NO_LOGS) {
-            Due.raises("15: no such LOG", NO_INDEX, () -> desk.x.root(log, -1));
+        Due.raises("15: beyond the empty LOG", Due.NO_ELEMENT, () -> desk.x.root(1, 1));
+        for (int log : Known.NO_LOGS) {
+            Due.raises("15: no such LOG", Due.NO_INDEX, () -> desk.x.root(log, -1));
         }
     }
 
@@ -453,20 +417,20 @@ public final class PromisesTest {
         Due.is("16: of one", desk.x.way(0, 0, 1), 0);
         Due.is("16: no digests", desk.x.outs(), 0);
         Due.is("16: 0 of 8", desk.x.way(0, 0, 8), 3);
-        Due.is("16: WAY", desk.out(), LEAF_1 + ROOT_2_4 + ROOT_4_8);
+        Due.is("16: WAY", desk.out(), Known.LEAF_1 + Known.ROOT_2_4 + Known.ROOT_4_8);
         Due.is("16: 5 of 8", desk.x.way(0, 5, 8), 3);
-        Due.is("16: WAY", desk.out(), LEAF_4 + ROOT_6_8 + ROOTS[4]);
+        Due.is("16: WAY", desk.out(), Known.LEAF_4 + Known.ROOT_6_8 + Known.ROOTS[4]);
         Due.is("16: 2 of 3", desk.x.way(0, 2, 3), 1);
-        Due.is("16: WAY", desk.out(), ROOTS[2]);
+        Due.is("16: WAY", desk.out(), Known.ROOTS[2]);
         Due.is("16: 0 of 2", desk.x.way(0, 0, 2), 1);
-        Due.is("16: WAY", desk.out(), LEAF_1);
+        Due.is("16: WAY", desk.out(), Known.LEAF_1);
         int[][] none = {{-1, 8}, {8, 8}, {9, 8}, {0, 0}, {0, 9}, {8, 9}, {0, -1}, {-2, -1},
             {Integer.MIN_VALUE, 8}, {0, Integer.MAX_VALUE}, {Integer.MAX_VALUE, Integer.MIN_VALUE}};
         for (int[] pair : none) {
-            Due.raises("16: no such WAY", NO_ELEMENT, () -> desk.x.way(0, pair[0], pair[1]));
+            Due.raises("16: no such WAY", Due.NO_ELEMENT, () -> desk.x.way(0, pair[0], pair[1]));
         }
-        for (int log : NO_LOGS) {
-            Due.raises("16: no such LOG", NO_INDEX, () -> desk.x.way(log, -1, 0));
+        for (int log : Known.NO_LOGS) {
+            Due.raises("16: no such LOG", Due.NO_INDEX, () -> desk.x.way(log, -1, 0));
         }
     }
 
@@ -477,53 +441,53 @@ public final class PromisesTest {
         Due.is("17: 8 and 8", desk.x.proof(0, 8, 8), 0);
         Due.is("17: no digests", desk.x.outs(), 0);
         Due.is("17: 1 and 8", desk.x.proof(0, 1, 8), 3);
-        Due.is("17: PROOF", desk.out(), LEAF_1 + ROOT_2_4 + ROOT_4_8);
+        Due.is("17: PROOF", desk.out(), Known.LEAF_1 + Known.ROOT_2_4 + Known.ROOT_4_8);
         Due.is("17: 6 and 8", desk.x.proof(0, 6, 8), 3);
-        Due.is("17: PROOF", desk.out(), ROOT_4_6 + ROOT_6_8 + ROOTS[4]);
+        Due.is("17: PROOF", desk.out(), Known.ROOT_4_6 + Known.ROOT_6_8 + Known.ROOTS[4]);
         Due.is("17: 2 and 5", desk.x.proof(0, 2, 5), 2);
-        Due.is("17: PROOF", desk.out(), ROOT_2_4 + LEAF_4);
+        Due.is("17: PROOF", desk.out(), Known.ROOT_2_4 + Known.LEAF_4);
         Due.is("17: 4 and 8", desk.x.proof(0, 4, 8), 1);
-        Due.is("17: PROOF", desk.out(), ROOT_4_8);
+        Due.is("17: PROOF", desk.out(), Known.ROOT_4_8);
         int[][] none = {{0, 8}, {-1, 8}, {9, 8}, {1, 9}, {9, 9}, {0, 0}, {1, 0}, {-2, -1},
             {Integer.MIN_VALUE, 8}, {1, Integer.MAX_VALUE}, {1, Integer.MIN_VALUE}};
         for (int[] pair : none) {
-            Due.raises("17: no such PROOF", NO_ELEMENT, () -> desk.x.proof(0, pair[0], pair[1]));
+            Due.raises("17: no such PROOF", Due.NO_ELEMENT, () -> desk.x.proof(0, pair[0], pair[1]));
         }
-        for (int log : NO_LOGS) {
-            Due.raises("17: no such LOG", NO_INDEX, () -> desk.x.proof(log, 0, 0));
+        for (int log : Known.NO_LOGS) {
+            Due.raises("17: no such LOG", Due.NO_INDEX, () -> desk.x.proof(log, 0, 0));
         }
     }
 
     private static void isIn() {
         Desk desk = new Desk();
-        String told = ROOTS[8] + ROOTS[1] + LEAF_1 + ROOT_2_4 + ROOT_4_8;
+        String told = Known.ROOTS[8] + Known.ROOTS[1] + Known.LEAF_1 + Known.ROOT_2_4 + Known.ROOT_4_8;
         Due.is("18: 0 of 8", desk.tape(told).x.isIn(0, 8), true);
         Due.is("18: used up", desk.tapeIsEmpty(), true);
         Due.is("18: another LEAF's number", desk.tape(told).x.isIn(1, 8), false);
         Due.is("18: another n of as many digests", desk.tape(told).x.isIn(0, 7), true);
         Due.is("18: an n of fewer digests", desk.tape(told).x.isIn(0, 4), false);
         Due.is("18: an n of more digests", desk.tape(told).x.isIn(0, 9), false);
-        Due.is("18: another ROOT", desk.tape(SOME + told.substring(64)).x.isIn(0, 8), false);
+        Due.is("18: another ROOT", desk.tape(Known.SOME + told.substring(64)).x.isIn(0, 8), false);
         Due.is("18: a byte behind", desk.tape(told + "00").x.isIn(0, 8), false);
-        Due.is("18: a digest behind", desk.tape(told + SOME).x.isIn(0, 8), false);
+        Due.is("18: a digest behind", desk.tape(told + Known.SOME).x.isIn(0, 8), false);
         Due.is("18: a byte too few", desk.tape(told.substring(0, 318)).x.isIn(0, 8), false);
         Due.is("18: a digest too few", desk.tape(told.substring(0, 256)).x.isIn(0, 8), false);
         Due.is("18: a last bit changed", desk.tape(told.substring(0, 319) + "5").x.isIn(0, 8), false);
-        Due.is("18: of one", desk.tape(SOME + SOME).x.isIn(0, 1), true);
-        Due.is("18: of one, nearly", desk.tape(NEARLY + SOME).x.isIn(0, 1), false);
-        Due.is("18: of one, unlike", desk.tape(SOME + OTHER).x.isIn(0, 1), false);
-        Due.is("18: no LEAF", desk.tape(SOME).x.isIn(0, 1), false);
+        Due.is("18: of one", desk.tape(Known.SOME + Known.SOME).x.isIn(0, 1), true);
+        Due.is("18: of one, nearly", desk.tape(Known.NEARLY + Known.SOME).x.isIn(0, 1), false);
+        Due.is("18: of one, unlike", desk.tape(Known.SOME + Known.OTHER).x.isIn(0, 1), false);
+        Due.is("18: no LEAF", desk.tape(Known.SOME).x.isIn(0, 1), false);
         Due.is("18: nothing", desk.x.isIn(0, 1), false);
         long[][] wrong = {{-1, 1}, {1, 1}, {0, 0}, {0, -1}, {-2, -1}, {Long.MIN_VALUE, Long.MAX_VALUE},
             {Long.MAX_VALUE, Long.MIN_VALUE}, {Long.MAX_VALUE, Long.MAX_VALUE}};
         for (long[] pair : wrong) {
-            Due.is("18: not 0 <= i < n", desk.tape(SOME + SOME).x.isIn(pair[0], pair[1]), false);
+            Due.is("18: not 0 <= i < n", desk.tape(Known.SOME + Known.SOME).x.isIn(pair[0], pair[1]), false);
         }
         Due.is("18: used up where it is false", desk.tapeIsEmpty(), true);
     }
 
     private static void isInOfGreatNumbers() {
-        byte[] leaf = Desk.hex(SOME);
+        byte[] leaf = Desk.hex(Known.SOME);
         long top = Long.MAX_VALUE;
         for (long[] pair : new long[][] {{0, top}, {top - 1, top}, {1L << 62, top}, {(1L << 62) - 1, 1L << 62},
             {1L << 62, (1L << 62) + 1}, {0x123456789abcdefL, 1L << 57}}) {
@@ -541,32 +505,33 @@ public final class PromisesTest {
 
     private static void isOn() {
         Desk desk = new Desk();
-        String told = ROOTS[6] + ROOTS[8] + ROOT_4_6 + ROOT_6_8 + ROOTS[4];
+        String told = Known.ROOTS[6] + Known.ROOTS[8] + Known.ROOT_4_6 + Known.ROOT_6_8 + Known.ROOTS[4];
         Due.is("19: 6 and 8", desk.tape(told).x.isOn(6, 8), true);
         Due.is("19: used up", desk.tapeIsEmpty(), true);
         Due.is("19: another m", desk.tape(told).x.isOn(5, 8), false);
         Due.is("19: another n", desk.tape(told).x.isOn(6, 9), false);
-        Due.is("19: another first ROOT", desk.tape(SOME + told.substring(64)).x.isOn(6, 8), false);
-        String nearly = ROOTS[6].substring(0, 63) + "e";
+        Due.is("19: another first ROOT", desk.tape(Known.SOME + told.substring(64)).x.isOn(6, 8), false);
+        String nearly = Known.ROOTS[6].substring(0, 63) + "e";
         Due.is("19: nearly the first ROOT", desk.tape(nearly + told.substring(64)).x.isOn(6, 8), false);
         Due.is("19: another second ROOT",
-                desk.tape(ROOTS[6] + SOME + told.substring(128)).x.isOn(6, 8), false);
+                desk.tape(Known.ROOTS[6] + Known.SOME + told.substring(128)).x.isOn(6, 8), false);
         Due.is("19: a byte behind", desk.tape(told + "00").x.isOn(6, 8), false);
-        Due.is("19: a digest behind", desk.tape(told + SOME).x.isOn(6, 8), false);
+        Due.is("19: a digest behind", desk.tape(told + Known.SOME).x.isOn(6, 8), false);
         Due.is("19: a digest too few", desk.tape(told.substring(0, 256)).x.isOn(6, 8), false);
         Due.is("19: a byte too few", desk.tape(told.substring(0, 318)).x.isOn(6, 8), false);
-        Due.is("19: m a power of 2", desk.tape(ROOTS[4] + ROOTS[8] + ROOT_4_8).x.isOn(4, 8), true);
-        Due.is("19: its first ROOT changed", desk.tape(SOME + ROOTS[8] + ROOT_4_8).x.isOn(4, 8), false);
-        Due.is("19: m is n", desk.tape(SOME + SOME).x.isOn(3, 3), true);
-        Due.is("19: m is n, nearly the ROOT", desk.tape(SOME + NEARLY).x.isOn(3, 3), false);
-        Due.is("19: m is n, unlike ROOTS", desk.tape(SOME + OTHER).x.isOn(3, 3), false);
-        Due.is("19: m is n, a digest", desk.tape(SOME + SOME + SOME).x.isOn(3, 3), false);
-        Due.is("19: one ROOT", desk.tape(SOME).x.isOn(3, 3), false);
+        Due.is("19: m a power of 2", desk.tape(Known.ROOTS[4] + Known.ROOTS[8] + Known.ROOT_4_8).x.isOn(4, 8), true);
+        Due.is("19: its first ROOT changed",
+                desk.tape(Known.SOME + Known.ROOTS[8] + Known.ROOT_4_8).x.isOn(4, 8), false);
+        Due.is("19: m is n", desk.tape(Known.SOME + Known.SOME).x.isOn(3, 3), true);
+        Due.is("19: m is n, nearly the ROOT", desk.tape(Known.SOME + Known.NEARLY).x.isOn(3, 3), false);
+        Due.is("19: m is n, unlike ROOTS", desk.tape(Known.SOME + Known.OTHER).x.isOn(3, 3), false);
+        Due.is("19: m is n, a digest", desk.tape(Known.SOME + Known.SOME + Known.SOME).x.isOn(3, 3), false);
+        Due.is("19: one ROOT", desk.tape(Known.SOME).x.isOn(3, 3), false);
         Due.is("19: nothing", desk.x.isOn(3, 3), false);
         long[][] wrong = {{0, 0}, {0, 1}, {-1, -1}, {2, 1}, {Long.MIN_VALUE, Long.MAX_VALUE},
             {Long.MAX_VALUE, Long.MIN_VALUE}, {Long.MIN_VALUE, Long.MIN_VALUE}};
         for (long[] pair : wrong) {
-            Due.is("19: not 0 < m <= n", desk.tape(SOME + SOME).x.isOn(pair[0], pair[1]), false);
+            Due.is("19: not 0 < m <= n", desk.tape(Known.SOME + Known.SOME).x.isOn(pair[0], pair[1]), false);
         }
         Due.is("19: used up where it is false", desk.tapeIsEmpty(), true);
     }
@@ -576,7 +541,7 @@ public final class PromisesTest {
         for (long[] pair : new long[][] {{1, top}, {top - 1, top}, {top, top}, {1L << 62, top},
             {(1L << 62) + 1, top}, {(1L << 62) - 1, 1L << 62}, {0x123456789abcdefL, 1L << 57}}) {
             byte[] digests = new byte[32 * Reference.stepDigests(pair[0], pair[1], true)];
-            byte[][] roots = Reference.rootsBySteps(Desk.hex(SOME), pair[0], pair[1], true,
+            byte[][] roots = Reference.rootsBySteps(Desk.hex(Known.SOME), pair[0], pair[1], true,
                     Reference.digestsFrom(digests, 0).iterator());
             byte[] told = Reference.join(roots[0], roots[1], digests);
             Desk desk = new Desk();
@@ -600,18 +565,18 @@ public final class PromisesTest {
             String changed = head.substring(0, at) + other + head.substring(at + 1);
             Due.is("20: changed at " + at, desk.tape(changed).x.isSealed(0), false);
         }
-        Due.is("20: numbers below 0", desk.tape(Desk.sealed("6b", -1, -1, SOME)).x.isSealed(1), true);
+        Due.is("20: numbers below 0", desk.tape(Desk.sealed("6b", -1, -1, Known.SOME)).x.isSealed(1), true);
         for (int n : new int[] {0, 79, 81, 112}) {
-            Due.raises("20: not 80 bytes", NO_ARGUMENT, () -> desk.sevens(n).x.isSealed(0));
+            Due.raises("20: not 80 bytes", Due.NO_ARGUMENT, () -> desk.sevens(n).x.isSealed(0));
         }
-        for (int log : NO_LOGS) {
-            Due.raises("20: no such LOG", NO_INDEX, () -> desk.tape("00").x.isSealed(log));
+        for (int log : Known.NO_LOGS) {
+            Due.raises("20: no such LOG", Due.NO_INDEX, () -> desk.tape("00").x.isSealed(log));
         }
     }
 
     private static void seal() {
         Desk desk = known();
-        String told = "ffffffffffffffff" + "8000000000000000" + SOME;
+        String told = "ffffffffffffffff" + "8000000000000000" + Known.SOME;
         Due.is("21: seal", desk.tape(told).x.seal(0), true);
         Due.is("21: used up", desk.tapeIsEmpty(), true);
         Due.is("21: HEAD", desk.out(), Desk.text(Reference.sealed(new byte[0], Desk.hex(told))));
@@ -622,16 +587,16 @@ public final class PromisesTest {
         Due.is("21: as cut does", desk.tape(head.substring(0, 96)).x.seal(0), true);
         Due.is("21: the same HEAD", desk.out(), head);
         for (int n : new int[] {0, 47, 49, 80}) {
-            Due.raises("21: not 48 bytes", NO_ARGUMENT, () -> desk.sevens(n).x.seal(0));
+            Due.raises("21: not 48 bytes", Due.NO_ARGUMENT, () -> desk.sevens(n).x.seal(0));
         }
-        for (int log : NO_LOGS) {
-            Due.raises("21: no such LOG", NO_INDEX, () -> desk.tape("00").x.seal(log));
+        for (int log : Known.NO_LOGS) {
+            Due.raises("21: no such LOG", Due.NO_INDEX, () -> desk.tape("00").x.seal(log));
         }
     }
 
     private static void sealWithLongKeys() {
         Desk desk = new Desk();
-        String told = "0000000000000001" + "0000000000000002" + OTHER;
+        String told = "0000000000000001" + "0000000000000002" + Known.OTHER;
         // HMAC hashes a KEY that is longer than a block of 64 bytes; a shorter one behind it is padded anew.
         for (int n : new int[] {1, 63, 64, 65, 100, 32, 3, 0}) {
             byte[] key = new byte[n];
@@ -649,125 +614,127 @@ public final class PromisesTest {
     private static void followVerdicts() {
         Desk desk = new Desk();
         desk.tape("6b").x.key(0);
-        String good = Desk.sealed("6b", 10, 4, ROOTS[4]);
-        Due.is("22: the SEAL of another LOG", follow(desk, 0, Desk.sealed("", 10, 4, ROOTS[4]), ""), 1);
-        Due.is("22: TIME below 0", follow(desk, 0, Desk.sealed("6b", -1, 4, ROOTS[4]), ""), 1);
-        Due.is("22: SIZE below 0", follow(desk, 0, Desk.sealed("6b", 10, -4, ROOTS[4]), ""), 1);
-        Due.is("22: a wrong SEAL before digests", follow(desk, 0, good.substring(0, 158) + "00", SOME), 1);
-        Due.raises("22: it has none yet", NO_ELEMENT, () -> desk.x.has(0, 0, 0));
-        Due.is("22: digests with the first", follow(desk, 0, good, SOME), 4);
+        String good = Desk.sealed("6b", 10, 4, Known.ROOTS[4]);
+        Due.is("22: the SEAL of another LOG", follow(desk, 0, Desk.sealed("", 10, 4, Known.ROOTS[4]), ""), 1);
+        Due.is("22: TIME below 0", follow(desk, 0, Desk.sealed("6b", -1, 4, Known.ROOTS[4]), ""), 1);
+        Due.is("22: SIZE below 0", follow(desk, 0, Desk.sealed("6b", 10, -4, Known.ROOTS[4]), ""), 1);
+        Due.is("22: a wrong SEAL before digests", follow(desk, 0, good.substring(0, 158) + "00", Known.SOME), 1);
+        Due.raises("22: it has none yet", Due.NO_ELEMENT, () -> desk.x.has(0, 0, 0));
+        Due.is("22: digests with the first", follow(desk, 0, good, Known.SOME), 4);
         Due.is("22: the first", follow(desk, 0, good, ""), 0);
         Due.is("22: used up", desk.tapeIsEmpty(), true);
-        Due.is("22: smaller", follow(desk, 0, Desk.sealed("6b", 9, 3, ROOTS[3]), SOME), 2);
-        Due.is("22: a split", follow(desk, 0, Desk.sealed("6b", 9, 4, SOME), SOME), 3);
-        Due.is("22: digests with the same", follow(desk, 0, good, SOME), 4);
-        Due.is("22: wrong digests before TIME", follow(desk, 0, Desk.sealed("6b", 9, 8, ROOTS[8]), SOME), 4);
-        Due.is("22: earlier", follow(desk, 0, Desk.sealed("6b", 9, 8, ROOTS[8]), ROOT_4_8), 5);
-        Due.is("22: the same, earlier", follow(desk, 0, Desk.sealed("6b", 9, 4, ROOTS[4]), ""), 5);
-        Due.is("22: the same, later", follow(desk, 0, Desk.sealed("6b", 11, 4, ROOTS[4]), ""), 0);
+        Due.is("22: smaller", follow(desk, 0, Desk.sealed("6b", 9, 3, Known.ROOTS[3]), Known.SOME), 2);
+        Due.is("22: a split", follow(desk, 0, Desk.sealed("6b", 9, 4, Known.SOME), Known.SOME), 3);
+        Due.is("22: digests with the same", follow(desk, 0, good, Known.SOME), 4);
+        Due.is("22: wrong digests before TIME",
+                follow(desk, 0, Desk.sealed("6b", 9, 8, Known.ROOTS[8]), Known.SOME), 4);
+        Due.is("22: earlier", follow(desk, 0, Desk.sealed("6b", 9, 8, Known.ROOTS[8]), Known.ROOT_4_8), 5);
+        Due.is("22: the same, earlier", follow(desk, 0, Desk.sealed("6b", 9, 4, Known.ROOTS[4]), ""), 5);
+        Due.is("22: the same, later", follow(desk, 0, Desk.sealed("6b", 11, 4, Known.ROOTS[4]), ""), 0);
         desk.x.has(0, 0, 0);
         Due.is("22: it has the later one", desk.out().substring(0, 16), "000000000000000b");
         Due.is("22: now earlier", follow(desk, 0, good, ""), 5);
-        Due.is("22: it goes on", follow(desk, 0, Desk.sealed("6b", 11, 8, ROOTS[8]), ROOT_4_8), 0);
+        Due.is("22: it goes on", follow(desk, 0, Desk.sealed("6b", 11, 8, Known.ROOTS[8]), Known.ROOT_4_8), 0);
         desk.x.has(0, 0, 0);
         Due.is("22: it has the greater one", desk.out().substring(0, 32), "000000000000000b0000000000000008");
         Due.is("22: smaller since then", follow(desk, 0, good, ""), 2);
-        Due.is("22: greatest numbers", follow(desk, 3, Desk.sealed("6b", Long.MAX_VALUE, Long.MAX_VALUE, SOME), ""), 0);
+        Due.is("22: greatest numbers",
+                follow(desk, 3, Desk.sealed("6b", Long.MAX_VALUE, Long.MAX_VALUE, Known.SOME), ""), 0);
     }
 
     private static void followDigests() {
         Desk desk = new Desk();
-        Due.is("22: of SIZE 0", follow(desk, 1, Desk.sealed("", 0, 0, NO_LEAVES), ""), 0);
-        Due.is("22: digests behind SIZE 0", follow(desk, 1, Desk.sealed("", 0, 6, ROOTS[6]), SOME), 4);
-        Due.is("22: none behind SIZE 0", follow(desk, 1, Desk.sealed("", 0, 6, ROOTS[6]), ""), 0);
-        String next = Desk.sealed("", 0, 8, ROOTS[8]);
-        String digests = ROOT_4_6 + ROOT_6_8 + ROOTS[4];
+        Due.is("22: of SIZE 0", follow(desk, 1, Desk.sealed("", 0, 0, Known.NO_LEAVES), ""), 0);
+        Due.is("22: digests behind SIZE 0", follow(desk, 1, Desk.sealed("", 0, 6, Known.ROOTS[6]), Known.SOME), 4);
+        Due.is("22: none behind SIZE 0", follow(desk, 1, Desk.sealed("", 0, 6, Known.ROOTS[6]), ""), 0);
+        String next = Desk.sealed("", 0, 8, Known.ROOTS[8]);
+        String digests = Known.ROOT_4_6 + Known.ROOT_6_8 + Known.ROOTS[4];
         Due.is("22: none", follow(desk, 1, next, ""), 4);
-        Due.is("22: one too few", follow(desk, 1, next, ROOT_4_6 + ROOT_6_8), 4);
-        Due.is("22: one too many", follow(desk, 1, next, digests + SOME), 4);
-        Due.is("22: in another order", follow(desk, 1, next, ROOT_6_8 + ROOT_4_6 + ROOTS[4]), 4);
-        Due.is("22: to another ROOT", follow(desk, 1, Desk.sealed("", 0, 8, SOME), digests), 4);
+        Due.is("22: one too few", follow(desk, 1, next, Known.ROOT_4_6 + Known.ROOT_6_8), 4);
+        Due.is("22: one too many", follow(desk, 1, next, digests + Known.SOME), 4);
+        Due.is("22: in another order", follow(desk, 1, next, Known.ROOT_6_8 + Known.ROOT_4_6 + Known.ROOTS[4]), 4);
+        Due.is("22: to another ROOT", follow(desk, 1, Desk.sealed("", 0, 8, Known.SOME), digests), 4);
         Due.is("22: right", follow(desk, 1, next, digests), 0);
-        Due.is("22: of another ROOT of that SIZE", follow(desk, 2, Desk.sealed("", 0, 6, SOME), ""), 0);
+        Due.is("22: of another ROOT of that SIZE", follow(desk, 2, Desk.sealed("", 0, 6, Known.SOME), ""), 0);
         Due.is("22: not from that one", follow(desk, 2, next, digests), 4);
-        Due.is("22: unlike ROOTS of SIZE 0", follow(desk, 3, Desk.sealed("", 0, 0, SOME), ""), 0);
-        Due.is("22: are a split", follow(desk, 3, Desk.sealed("", 0, 0, OTHER), ""), 3);
-        Due.is("22: nearly one ROOT", follow(desk, 2, Desk.sealed("", 0, 6, NEARLY), ""), 3);
+        Due.is("22: unlike ROOTS of SIZE 0", follow(desk, 3, Desk.sealed("", 0, 0, Known.SOME), ""), 0);
+        Due.is("22: are a split", follow(desk, 3, Desk.sealed("", 0, 0, Known.OTHER), ""), 3);
+        Due.is("22: nearly one ROOT", follow(desk, 2, Desk.sealed("", 0, 6, Known.NEARLY), ""), 3);
         // A new KEY: what was sealed before is not as by it just now.
         desk.tape("6b").x.key(0);
         Due.is("22: the KEY before", follow(desk, 1, next, ""), 1);
-        Due.is("22: the KEY just now", follow(desk, 1, Desk.sealed("6b", 0, 8, ROOTS[8]), ""), 0);
+        Due.is("22: the KEY just now", follow(desk, 1, Desk.sealed("6b", 0, 8, Known.ROOTS[8]), ""), 0);
     }
 
     private static void followEvidence() {
         Desk desk = new Desk();
-        String held = Desk.sealed("", 1, 4, ROOTS[4]);
-        String split = Desk.sealed("", 0, 4, SOME);
+        String held = Desk.sealed("", 1, 4, Known.ROOTS[4]);
+        String split = Desk.sealed("", 0, 4, Known.SOME);
         follow(desk, 0, held, "");
-        Due.is("22: split", follow(desk, 0, split, OTHER), 3);
+        Due.is("22: split", follow(desk, 0, split, Known.OTHER), 3);
         desk.x.has(0, 0, 0);
         Due.is("22: its HEAD stays", desk.out(), held);
         desk.x.has(0, 0, 1);
         Due.is("22: its HEAD is EVIDENCE", desk.out(), held);
         desk.x.has(0, 0, 2);
         Due.is("22: and this one", desk.out(), split);
-        Due.is("22: another split", follow(desk, 0, Desk.sealed("", 9, 4, OTHER), ""), 3);
-        Due.is("22: goes on", follow(desk, 0, Desk.sealed("", 9, 8, ROOTS[8]), ROOT_4_8), 0);
+        Due.is("22: another split", follow(desk, 0, Desk.sealed("", 9, 4, Known.OTHER), ""), 3);
+        Due.is("22: goes on", follow(desk, 0, Desk.sealed("", 9, 8, Known.ROOTS[8]), Known.ROOT_4_8), 0);
         desk.x.has(0, 0, 1);
         Due.is("22: the first EVIDENCE stays", desk.out(), held);
-        Due.raises("22: of the other LOG none", NO_ELEMENT, () -> desk.x.has(0, 1, 1));
-        Due.raises("22: of another WITNESS none", NO_ELEMENT, () -> desk.x.has(1, 0, 1));
+        Due.raises("22: of the other LOG none", Due.NO_ELEMENT, () -> desk.x.has(0, 1, 1));
+        Due.raises("22: of another WITNESS none", Due.NO_ELEMENT, () -> desk.x.has(1, 0, 1));
     }
 
     private static void followWrong() {
         Desk desk = new Desk();
         for (int n : new int[] {0, 32, 79, 81, 111, 113, 96}) {
-            Due.raises("22: bytes", NO_ARGUMENT, () -> desk.sevens(n).x.follow(0, 0));
+            Due.raises("22: bytes", Due.NO_ARGUMENT, () -> desk.sevens(n).x.follow(0, 0));
         }
         Due.is("22: whole digests", desk.sevens(144).x.follow(0, 0), 1);
-        for (int log : NO_LOGS) {
-            Due.raises("22: no such LOG", NO_INDEX, () -> desk.sevens(79).x.follow(0, log));
+        for (int log : Known.NO_LOGS) {
+            Due.raises("22: no such LOG", Due.NO_INDEX, () -> desk.sevens(79).x.follow(0, log));
         }
-        for (int witness : NO_WITNESSES) {
-            Due.raises("22: no such WITNESS", NO_INDEX, () -> desk.sevens(79).x.follow(witness, 1));
+        for (int witness : Known.NO_WITNESSES) {
+            Due.raises("22: no such WITNESS", Due.NO_INDEX, () -> desk.sevens(79).x.follow(witness, 1));
         }
     }
 
     private static void gossip() {
         Desk desk = new Desk();
         Due.is("23: neither has one", desk.x.gossip(0, 1, 0), 0);
-        follow(desk, 0, Desk.sealed("", 1, 4, ROOTS[4]), "");
+        follow(desk, 0, Desk.sealed("", 1, 4, Known.ROOTS[4]), "");
         Due.is("23: the second has none", desk.x.gossip(0, 1, 0), 0);
         Due.is("23: the first has none", desk.x.gossip(1, 0, 0), 0);
         Due.is("23: with itself", desk.x.gossip(0, 0, 0), 0);
-        follow(desk, 1, Desk.sealed("", 2, 4, ROOTS[4]), "");
+        follow(desk, 1, Desk.sealed("", 2, 4, Known.ROOTS[4]), "");
         Due.is("23: one SIZE and ROOT", desk.x.gossip(0, 1, 0), 0);
-        follow(desk, 2, Desk.sealed("", 0, Long.MAX_VALUE, SOME), "");
-        follow(desk, 3, Desk.sealed("", 0, Long.MAX_VALUE, NEARLY), "");
+        follow(desk, 2, Desk.sealed("", 0, Long.MAX_VALUE, Known.SOME), "");
+        follow(desk, 3, Desk.sealed("", 0, Long.MAX_VALUE, Known.NEARLY), "");
         Due.is("23: nearly one ROOT", desk.x.gossip(3, 2, 0), 3);
         Due.is("23: the first is greater", desk.x.gossip(2, 0, 0), 1);
         Due.is("23: the second is greater", desk.x.gossip(0, 2, 0), 2);
         desk.x.has(0, 0, 0);
         Due.is("23: no HEAD is taken over", desk.out().substring(16, 32), "0000000000000004");
         Due.is("23: the other LOG", desk.x.gossip(0, 2, 1), 0);
-        Due.raises("23: none is EVIDENCE", NO_ELEMENT, () -> desk.x.has(0, 0, 1));
+        Due.raises("23: none is EVIDENCE", Due.NO_ELEMENT, () -> desk.x.has(0, 0, 1));
         desk.tape("0102");
         desk.x.gossip(0, 1, 0);
         Due.is("23: the TAPE stays", desk.x.end(2), true);
-        for (int log : NO_LOGS) {
-            Due.raises("23: no such LOG", NO_INDEX, () -> desk.x.gossip(0, 1, log));
+        for (int log : Known.NO_LOGS) {
+            Due.raises("23: no such LOG", Due.NO_INDEX, () -> desk.x.gossip(0, 1, log));
         }
-        for (int witness : NO_WITNESSES) {
-            Due.raises("23: no such first", NO_INDEX, () -> desk.x.gossip(witness, 1, 0));
-            Due.raises("23: no such second", NO_INDEX, () -> desk.x.gossip(1, witness, 0));
+        for (int witness : Known.NO_WITNESSES) {
+            Due.raises("23: no such first", Due.NO_INDEX, () -> desk.x.gossip(witness, 1, 0));
+            Due.raises("23: no such second", Due.NO_INDEX, () -> desk.x.gossip(1, witness, 0));
         }
     }
 
     private static void gossipEvidence() {
         Desk desk = new Desk();
-        String one = Desk.sealed("", 1, 4, ROOTS[4]);
-        String two = Desk.sealed("", 1, 4, SOME);
-        String three = Desk.sealed("", 1, 4, OTHER);
+        String one = Desk.sealed("", 1, 4, Known.ROOTS[4]);
+        String two = Desk.sealed("", 1, 4, Known.SOME);
+        String three = Desk.sealed("", 1, 4, Known.OTHER);
         // The three are told apart by the first byte of the ROOT, for reading them whole would need too many calls.
         follow(desk, 0, one, "");
         follow(desk, 1, two, "");
@@ -788,33 +755,33 @@ public final class PromisesTest {
         Due.is("23: who had none has it", desk.x.out(16), 0x22);
         desk.x.has(2, 0, 0);
         Due.is("23: its HEAD stays", desk.x.out(16), 0x22);
-        Due.raises("23: of the other LOG none", NO_ELEMENT, () -> desk.x.has(0, 1, 1));
+        Due.raises("23: of the other LOG none", Due.NO_ELEMENT, () -> desk.x.has(0, 1, 1));
     }
 
     private static void has() {
         Desk desk = new Desk();
-        String head = Desk.sealed("", 3, 4, ROOTS[4]);
-        String other = Desk.sealed("", 3, 4, SOME);
+        String head = Desk.sealed("", 3, 4, Known.ROOTS[4]);
+        String other = Desk.sealed("", 3, 4, Known.SOME);
         desk.tape(head).x.follow(3, 1);
         Due.is("24: has", desk.x.has(3, 1, 0), true);
         Due.is("24: HEAD", desk.out(), head);
-        Due.raises("24: no EVIDENCE", NO_ELEMENT, () -> desk.x.has(3, 1, 1));
-        Due.raises("24: no EVIDENCE", NO_ELEMENT, () -> desk.x.has(3, 1, 2));
+        Due.raises("24: no EVIDENCE", Due.NO_ELEMENT, () -> desk.x.has(3, 1, 1));
+        Due.raises("24: no EVIDENCE", Due.NO_ELEMENT, () -> desk.x.has(3, 1, 2));
         desk.tape(other).x.follow(3, 1);
         Due.is("24: first", desk.x.has(3, 1, 1), true);
         Due.is("24: EVIDENCE", desk.out(), head);
         Due.is("24: second", desk.x.has(3, 1, 2), true);
         Due.is("24: EVIDENCE", desk.out(), other);
         for (int which : new int[] {-1, 3, Integer.MIN_VALUE, Integer.MAX_VALUE}) {
-            Due.raises("24: another which", NO_ELEMENT, () -> desk.x.has(3, 1, which));
+            Due.raises("24: another which", Due.NO_ELEMENT, () -> desk.x.has(3, 1, which));
         }
-        Due.raises("24: another LOG", NO_ELEMENT, () -> desk.x.has(3, 0, 0));
-        Due.raises("24: another WITNESS", NO_ELEMENT, () -> desk.x.has(2, 1, 0));
-        for (int log : NO_LOGS) {
-            Due.raises("24: no such LOG", NO_INDEX, () -> desk.x.has(0, log, 9));
+        Due.raises("24: another LOG", Due.NO_ELEMENT, () -> desk.x.has(3, 0, 0));
+        Due.raises("24: another WITNESS", Due.NO_ELEMENT, () -> desk.x.has(2, 1, 0));
+        for (int log : Known.NO_LOGS) {
+            Due.raises("24: no such LOG", Due.NO_INDEX, () -> desk.x.has(0, log, 9));
         }
-        for (int witness : NO_WITNESSES) {
-            Due.raises("24: no such WITNESS", NO_INDEX, () -> desk.x.has(witness, 0, 9));
+        for (int witness : Known.NO_WITNESSES) {
+            Due.raises("24: no such WITNESS", Due.NO_INDEX, () -> desk.x.has(witness, 0, 9));
         }
     }
 
@@ -828,11 +795,11 @@ public final class PromisesTest {
         };
         for (int i = 0; i < calls.length; i++) {
             desk.sevens(123);
-            Due.raises("used up: call " + i, i % 2 == 0 ? NO_INDEX : NO_ARGUMENT, calls[i]);
+            Due.raises("used up: call " + i, i % 2 == 0 ? Due.NO_INDEX : Due.NO_ARGUMENT, calls[i]);
             Due.is("used up behind call " + i, desk.tapeIsEmpty(), true);
         }
         desk.sevens(3);
-        Due.raises("used up: key", NO_STATE, () -> desk.x.key(0));
+        Due.raises("used up: key", Due.NO_STATE, () -> desk.x.key(0));
         Due.is("used up behind key", desk.tapeIsEmpty(), true);
     }
 
@@ -844,10 +811,10 @@ public final class PromisesTest {
             () -> desk.x.way(0, 8, 8), () -> desk.x.proof(0, 0, 8), () -> desk.x.has(0, 0, 0)
         };
         for (Due.Call call : calls) {
-            Due.raises("OUT: it throws", NO_ELEMENT, call);
-            Due.is("OUT stays", desk.out(), ROOTS[8]);
+            Due.raises("OUT: it throws", Due.NO_ELEMENT, call);
+            Due.is("OUT stays", desk.out(), Known.ROOTS[8]);
         }
-        Due.raises("OUT: seal throws", NO_ARGUMENT, () -> desk.tape("00").x.seal(0));
-        Due.is("OUT stays", desk.out(), ROOTS[8]);
+        Due.raises("OUT: seal throws", Due.NO_ARGUMENT, () -> desk.tape("00").x.seal(0));
+        Due.is("OUT stays", desk.out(), Known.ROOTS[8]);
     }
 }
