@@ -360,11 +360,11 @@ public final class LeafWitness {
     private static final class Row {
         final byte[] bytes;
 
-        /** The first n bytes of the source. */
+        /** The first n bytes of the source; none, if it has fewer. */
         Row(byte[] source, int n) {
-            int length = Math.max(0, Math.min(n, source.length));
+            int length = holds(source, 0, n) ? n : 0;
             bytes = new byte[length];
-            System.arraycopy(source, 0, bytes, 0, length);
+            copy(source, 0, bytes, 0, length);
         }
 
         long longAt(int place) {

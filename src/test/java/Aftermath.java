@@ -2,9 +2,9 @@ import java.util.LinkedHashMap;
 import java.util.Map;
 
 /**
- * What a call leaves behind: OUT, the TAPE's length and first 120 bytes, of each LOG the sizes, KEY, ROOT, first ENTRIES
- * and HEADS and the last that it has room for, and all that the WITNESSES have. Each piece is looked at in an object of
- * its own, for to look at one changes the object, and an object has only 512 calls.
+ * What a call leaves behind: OUT, the TAPE's length and first 120 bytes, of each LOG the sizes, KEY, ROOT, first
+ * ENTRIES and HEADS and the last that it has room for, and all that the WITNESSES have. Each piece is looked at in an
+ * object of its own, for to look at one changes the object, and an object has only 512 calls.
  */
 final class Aftermath {
     interface Scene {

@@ -30,6 +30,9 @@ public final class FaceTest {
         "int proof(int,int,int)" + INDEX + ELEMENT, "int size(int,int)" + INDEX + ELEMENT,
         "int submit(int)" + INDEX + ARGUMENT + STATE, "int way(int,int,int)" + INDEX + ELEMENT
     };
+    /** A method as the document writes it: type and name, parameters, exceptions. */
+    private static final Pattern METHOD =
+            Pattern.compile("    public (\\w+ \\w+)\\(([\\w, ]*)\\)(?: throws ([\\w, ]+))?;");
     /** Words that the language leaves out, each with the rule that says so. */
     private static final String[][] LEFT_OUT = {
         {"->|::", "2: no lambda, no method reference"},
@@ -46,6 +49,7 @@ public final class FaceTest {
     }
 
     public static void main(String[] args) throws IOException {
+        documentsFace();
         publicMembers();
         otherMembers();
         String source = Files.readString(Path.of("src/main/java/LeafWitness.java"));
@@ -54,6 +58,31 @@ public final class FaceTest {
         imports(source);
         lengths(code);
         Due.done("FaceTest");
+    }
+
+    /** The face that the class is compared with is, line by line, the one written in the document. */
+    private static void documentsFace() throws IOException {
+        Path document = Path.of("../shared/DOC.md");
+        if (!Files.exists(document)) {
+            System.out.println(document + " is not there: the face is not looked up in it");
+            return;
+        }
+        List<String> methods = new ArrayList<>();
+        List<String> others = new ArrayList<>();
+        for (String line : Files.readString(document).split("## The public face")[1].split("```")[1].split("\n")) {
+            Matcher method = METHOD.matcher(line);
+            if (method.matches()) {
+                String types = method.group(2).replaceAll(" \\w+(, |$)", ",").replaceAll(",$", "");
+                String thrown = method.group(3) == null ? "" : " throws " + method.group(3).replace(",", "");
+                methods.add(method.group(1) + "(" + types + ")" + thrown);
+            } else if (line.startsWith("    ")) {
+                others.add(line.strip());
+            }
+        }
+        methods.sort(null);
+        Due.is("the document's methods", methods, Arrays.asList(FACE));
+        Due.is("the document's other members", others,
+                List.of("public static final int NONE = -1;", "public LeafWitness();"));
     }
 
     private static String named(Method method) {
